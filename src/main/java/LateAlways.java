@@ -270,16 +270,16 @@ public final class LateAlways {
         if (!isMeeting(meeting) || what < 0 || what > 2) {
             return NONE;
         }
-        for (int two = 0; two < 49; two++) {
+        for (int two = 0; two < Watch.TWOS; two++) {
             startFromNow();
-            course.fixMeant(meeting, two / 7 * 10, two % 7 * 10);
+            course.fixMeant(meeting, Watch.meantByFirst(two), Watch.meantBySecond(two));
             course.goDay();
             int[] costs = course.book.costsOfEach;
             watch.keepTwo(two, costs[2 * meeting], costs[2 * meeting + 1]);
         }
         int many = 0;
         int first = NONE;
-        for (int two = 0; two < 49; two++) {
+        for (int two = 0; two < Watch.TWOS; two++) {
             if (watch.neitherParts(two)) {
                 many++;
                 first = first == NONE ? two : first;
@@ -291,7 +291,7 @@ public final class LateAlways {
         if (first == NONE) {
             return -2;
         }
-        return what == 1 ? first / 7 * 10 : first % 7 * 10;
+        return what == 1 ? Watch.meantByFirst(first) : Watch.meantBySecond(first);
     }
 
     public int again(int what) {
@@ -358,7 +358,12 @@ public final class LateAlways {
         if (what == 0) {
             return Integer.bitCount(fitting);
         }
-        return fitting == 0 ? -100 : Integer.numberOfTrailingZeros(fitting) * 10 - 20;
+        for (int i = 0; i < HABITS; i++) {
+            if ((fitting >> i & 1) == 1) {
+                return habitOf(i);
+            }
+        }
+        return -100;
     }
 
     public int door(int person, int what) {
@@ -411,7 +416,7 @@ public final class LateAlways {
         int waited = course.waited;
         for (int p = 0; p < now.town.people; p++) {
             startFromNow();
-            // who is exempt already is nobody to choose; as it changes nothing, nobody wins the tie
+            // who is exempt already changes nothing, and nobody is ahead of several
             course.state.cells[State.EXEMPT] |= 1 << p;
             course.goDays(n);
             if (course.waited < waited) {
@@ -535,12 +540,16 @@ public final class LateAlways {
         return before;
     }
 
-    /** Bit i stands for the habit -20 + 10 * i; what each leads to stays in the watch. */
+    private static int habitOf(int i) {
+        return 10 * i - 20;
+    }
+
+    /** Bit i stands for the i-th habit; what each leads to stays in the watch. */
     private int habitsThatFit(int person) {
         int fitting = 0;
         for (int i = 0; i < HABITS; i++) {
             course.start(now.town, ruleThatIsInForce());
-            course.habits[person] = 10 * i - 20;
+            course.habits[person] = habitOf(i);
             course.state.begin(now.town, course.habits);
             for (int n = 0; n <= LAST_LOG_DAY; n++) {
                 course.goDay();
@@ -1298,11 +1307,11 @@ public final class LateAlways {
             for (int i = from; i < to && i < code.length; i++) {
                 int sign = code[i] & 31;
                 int with = code[i] >> 5;
-                if (sign == Sign.NUMBER || sign == Sign.WORD) {
-                    if (top >= stack.length || with >= words.length && sign == Sign.WORD) {
-                        return 0;
-                    }
-                    stack[top] = sign == Sign.NUMBER ? with : words[with];
+                if (sign == Sign.NUMBER && top < stack.length) {
+                    stack[top] = with;
+                    top++;
+                } else if (sign == Sign.WORD && top < stack.length && with < words.length) {
+                    stack[top] = words[with];
                     top++;
                 } else if (sign == Sign.NOT && top >= 1) {
                     stack[top - 1] = 1 - stack[top - 1];
@@ -1428,7 +1437,8 @@ public final class LateAlways {
                 }
             }
             for (int p = 0; p < town.people; p++) {
-                int clock = state.cells[State.CLOCK + p] + Integer.signum(book.guilt[p]);
+                int by = Math.max(-1, Math.min(1, book.guilt[p]));
+                int clock = state.cells[State.CLOCK + p] + by;
                 state.cells[State.CLOCK + p] = Math.max(-CLOCK_MOST, Math.min(CLOCK_MOST, clock));
             }
             state.cells[State.DAY] = Math.min(LAST_DAY, state.cells[State.DAY] + 1);
@@ -1437,8 +1447,9 @@ public final class LateAlways {
         private void goThrough(int meeting) {
             int first = town.firsts[meeting];
             int second = town.seconds[meeting];
-            int meantFirst = meetingMeant(first, second, meeting);
-            int meantSecond = meetingMeant(second, first, meeting);
+            // both are asked ahead of what the meeting changes
+            int meantFirst = minutesMeant(first, second, meeting);
+            int meantSecond = minutesMeant(second, first, meeting);
             if (meeting == fixedMeeting) {
                 meantFirst = fixedFirst;
                 meantSecond = fixedSecond;
@@ -1449,25 +1460,24 @@ public final class LateAlways {
             }
             int comesFirst = whenComes(first, meeting, meantFirst);
             int comesSecond = whenComes(second, meeting, meantSecond);
-            int gap = Math.abs(comesFirst - comesSecond);
-            int wait = Math.min(gap, town.patience);
-            boolean firstWaits = comesFirst < comesSecond;
-            if (gap > town.patience) {
+            int waitFirst = Math.max(0, Math.min(town.patience, comesSecond - comesFirst));
+            int waitSecond = Math.max(0, Math.min(town.patience, comesFirst - comesSecond));
+            if (Math.abs(comesFirst - comesSecond) > town.patience) {
                 book.begins[meeting] = NONE;
-                book.ends[first] = comesFirst + (firstWaits ? wait : 0);
-                book.ends[second] = comesSecond + (firstWaits ? 0 : wait);
+                book.ends[first] = comesFirst + waitFirst;
+                book.ends[second] = comesSecond + waitSecond;
                 state.cells[State.MISSED + meeting]++;
                 missed++;
             } else {
-                book.begins[meeting] = Math.max(comesFirst, comesSecond);
+                book.begins[meeting] = comesFirst + waitFirst;
                 book.ends[first] = book.begins[meeting] + town.lengths[meeting];
                 book.ends[second] = book.ends[first];
                 state.cells[State.HELD + meeting]++;
             }
-            book.waits[meeting] = wait;
             int minute = state.cells[State.MINUTE + meeting];
-            charge(2 * meeting, first, comesFirst - minute, firstWaits ? wait : 0);
-            charge(2 * meeting + 1, second, comesSecond - minute, firstWaits ? 0 : wait);
+            book.waits[meeting] = waitFirst + waitSecond;
+            charge(2 * meeting, first, comesFirst - minute, waitFirst);
+            charge(2 * meeting + 1, second, comesSecond - minute, waitSecond);
         }
 
         /** What one has of a meeting: how late they were, what they waited, their fine. */
@@ -1500,7 +1510,7 @@ public final class LateAlways {
             return Math.max(MEANT_LEAST, Math.min(MEANT_MOST, drawn));
         }
 
-        private int meetingMeant(int person, int other, int meeting) {
+        private int minutesMeant(int person, int other, int meeting) {
             if (rule == null) {
                 return habits[person];
             }
@@ -1526,13 +1536,22 @@ public final class LateAlways {
     /** Rows in which what several courses led to is kept, to be looked at together. */
     static final class Watch {
         private static final int STEPS = 7;
+        static final int TWOS = STEPS * STEPS;
         private static final int LOG_DAYS = LAST_LOG_DAY + 1;
         /** The cells of a state that days come again by: all clocks, then all that was late last. */
         private static final int AGAIN_CELLS = State.FINES;
 
-        private final int[] costsOfTwos = new int[2 * STEPS * STEPS];
+        private final int[] costsOfTwos = new int[2 * TWOS];
         private final int[] latesByHabit = new int[HABITS * LOG_DAYS];
         private final int[] statesOfDays = new int[DAYS_LOOKED_AT * AGAIN_CELLS];
+
+        static int meantByFirst(int two) {
+            return two / STEPS * 10;
+        }
+
+        static int meantBySecond(int two) {
+            return two % STEPS * 10;
+        }
 
         void keepTwo(int two, int costsOfFirst, int costsOfSecond) {
             costsOfTwos[2 * two] = costsOfFirst;
