@@ -302,6 +302,17 @@ public final class PromisesTest {
         due("clock of 1", x.person(1, 1), 1);
         // by day 1 meeting 0 has fined 1 once more when meeting 1 is come to: 9 * 10 held by nothing
         due("late by fines so far", x.today(1, 1), 89);
+        meantBySecond("late exempt*9", 9);
+        meantBySecond("late mine+1", 8);
+        meantBySecond("late theirs", 17);
+        meantBySecond("late person*10+other", 20);
+        meantBySecond("late 5 if not 1=1 or 1=1;late 6", 5);
+        meantBySecond("late 5 if not 1=2 and not 1>=2 and not 2<=1 and 3-1<1+2 and 5>4;late 6", 5);
+    }
+
+    private static void meantBySecond(String rule, int want) {
+        LateAlways x = in("town 3 60 99;person 37 20;person 20 20;person 27 20;exempt 2;meet 0 2 100 10", rule);
+        due("second late by " + rule, x.today(0, 2), want);
     }
 
     private static void force() {
@@ -344,6 +355,10 @@ public final class PromisesTest {
         }
         due("held", x.meeting(0, 4), 1);
         due("missed", x.meeting(0, 5), 0);
+        due("held", x.meeting(1, 4), 1);
+        due("another minute", x.ask(1, 95), 90);
+        due("another minute", x.meeting(1, 2), 95);
+        due("this one stays", x.meeting(0, 2), 60);
         for (int w : WRONG) {
             due("person(0, " + w + ")", x.person(0, w), -1000);
             due("person(" + w + ", 0)", x.person(w, 0), -1000);
@@ -560,6 +575,11 @@ public final class PromisesTest {
         due("from 0 on", z.minute(0, 0), 0);
         due("missed there", z.minute(0, 1), 0);
         due("costs there", z.minute(0, 2), 3);
+        String hundred = "town 0 60 99;person 20 20;person 20 20;meet 0 1 100 5";
+        due("60 behind", in(hundred, "late 0 if asked=160;late 50 if person=1").minute(0, 0), 160);
+        due("61 behind", in(hundred, "late 0 if asked=161;late 50 if person=1").minute(0, 0), 40);
+        due("60 ahead", in(hundred, "late 0 if asked=40;late 0 if asked=50;late 50 if person=1").minute(0, 0), 40);
+        due("61 ahead", in(hundred, "late 0 if asked=39;late 0 if asked=50;late 50 if person=1").minute(0, 0), 50);
         // costs would be 2 where it is missed (patience 2), 3 where it is not
         LateAlways v = in("town 0 9 2;fine 0 3;person 20 20;person 20 20;meet 0 1 60 5",
                 "late 12 if asked=100 and person=0;late 11 if asked=100;late 60 if person=1 ;late 0");
@@ -684,6 +704,11 @@ public final class PromisesTest {
         // -20 to 60 by tens; who is early or over comes by another clock then, but none as another
         due("alike there", y.door(0, 1), 1);
         due("without meetings by habit", y.door(2, 1), 1);
+        String two = "town 0 60 99;person 20 20;person 20 20;meet 0 1 0 1";
+        due("behind day 30", in(two, "late habit if day=30").door(0, 0), 30);
+        due("never", in(two, "late habit if day=31").door(0, 0), 0);
+        due("all alike", in(two, "late habit if day=31").door(0, 1), 9);
+        due("three alike", in(two, "late habit/20*20 if day=4;late 0").door(0, 1), 3);
         y.log(7, 2, 30);
         due("without meetings by habit", y.habit(2, 1), 30);
         due("a log of another", y.habit(0, 0), 9);
@@ -767,6 +792,7 @@ public final class PromisesTest {
             due("years(" + n[0] + ", " + n[1] + ", " + n[2] + ")", x.years(n[0], n[1], n[2]), -1);
         }
         due("years begin from now", x.count(7), 0);
+        due("most years", x.years(10, 60, 0), 0);
     }
 
     private static void count() {
