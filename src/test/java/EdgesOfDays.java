@@ -137,6 +137,14 @@ final class EdgesOfDays {
         }
         x.undo();
         Due.is("missed, a day undone", x.meeting(0, 5), 2);
+        // each by its number: 1 is held, 0 and 2 are missed
+        LateAlways y = Due.in("town 0 60 5;person 20 20;person 20 20;meet 0 1 100 1;meet 0 1 300 1;meet 0 1 500 1",
+                "late 60*person if not meeting=1");
+        Due.is("missed", y.day(), 2);
+        for (int m = 0; m < 3; m++) {
+            Due.is("held " + m, y.meeting(m, 4), m == 1 ? 1 : 0);
+            Due.is("missed " + m, y.meeting(m, 5), m == 1 ? 0 : 1);
+        }
     }
 
     // ---- 9: day: refused, empty, full
@@ -376,9 +384,10 @@ final class EdgesOfDays {
         x.day();
         Due.is("over twice, early once", x.person(0, 1), 1);
         Due.is("fines", x.person(0, 4), 3);
-        LateAlways y = Due.in("town 10 20 99;person 20 20;person 20 20;meet 0 1 100 1;meet 0 1 200 1;meet 0 1 300 1");
+        LateAlways y = Due.in("town 10 20 99;person 20 20;person 60 20;meet 0 1 100 1;meet 0 1 200 1;meet 0 1 300 1");
         y.day();
         Due.is("early three times", y.person(0, 1), -1);
+        Due.is("over three times", y.person(1, 1), 1);
         // 0 is early at 100 and at 110, over at 140 as it ends at 180; 1 is in time twice
         LateAlways z = Due.in("town 10 20 99;person 20 20;person 30 20;meet 0 1 100 1;meet 0 1 110 60;meet 0 1 140 1");
         z.day();

@@ -52,6 +52,17 @@ final class EdgesOfQuestions {
         }
     }
 
+    static void p14_eachOfAPersonsOwn() {
+        // early by a day's fine of 4 or over by 7; 0 waits; 2 has no meeting
+        LateAlways x = Due.in("town 10 20 99;fine 4 7;person 20 20;person 60 20;person 20 23;meet 0 1 100 10");
+        int[][] ahead = {{-1, 4, 40}, {1, 7, 0}, {3, 0, 0}};
+        for (int p = 0; p < 3; p++) {
+            for (int what = 0; what < 3; what++) {
+                Due.is("ahead(" + p + ", 1, " + what + ")", x.ahead(p, 1, what), ahead[p][what]);
+            }
+        }
+    }
+
     static void p14_nothingChanges() {
         Due.nothingHappens("ahead", EdgesOfTexts::busy, x -> {
             x.ahead(0, 100, 0);
@@ -139,6 +150,18 @@ final class EdgesOfQuestions {
         LateAlways y = Due.in("town 0 60 99");
         Due.is("who", y.chain(0), -1);
         Due.is("when", y.chain(1), -1);
+    }
+
+    static void p17_theLeastAndTheMostPerson() {
+        Due.is("who", Due.in(PAIR).chain(0), 0);
+        Due.is("when", Due.in(PAIR).chain(1), 110);
+        // 0 waits a minute in vain, 1 comes later
+        LateAlways x = Due.in("town 0 60 1;person 20 20;person 80 20;meet 0 1 100 10");
+        Due.is("who", x.chain(0), 1);
+        Due.is("when", x.chain(1), 160);
+        LateAlways y = Due.in("town 0 60 1" + ";person 20 20".repeat(4) + ";person 80 20;meet 4 3 100 10");
+        Due.is("who", y.chain(0), 4);
+        Due.is("when", y.chain(1), 160);
     }
 
     static void p17_ofSeveralTheLeast() {
@@ -309,6 +332,15 @@ final class EdgesOfQuestions {
         Due.is("all", x.count(8), 31);
     }
 
+    static void p31_finesAndWaitedOfAllFiveTogether() {
+        // all are over, by 2 each; each first one waits 10; how late they were last is not among these
+        LateAlways x = Due.in("town 0 5 99;fine 0 2;person 40 20;person 50 20;person 40 20;person 50 20;person 60 20;"
+                + "meet 0 1 100 1;meet 2 3 100 1;meet 4 1 300 1");
+        x.day();
+        Due.is("fines", x.count(9), 6 * 2);
+        Due.is("waited, with 10 of 1 for 4", x.count(10), 30);
+    }
+
     static void p31_theMostOfEach() {
         LateAlways x = Due.in("town 59 60 99" + ";person 20 20".repeat(5) + ";meet 0 1 0 1".repeat(8));
         int[] counts = {59, 60, 99, 5, 8};
@@ -450,6 +482,27 @@ final class EdgesOfQuestions {
         x.let(1);
         x.day();
         Due.is("fines", x.person(1, 4), 6 + 6);
+    }
+
+    static void p33_allTenLogs() {
+        // ten logs that 10 alone is so by, the last of which says it
+        LateAlways x = Due.in(PAIR + ";exempt 0;exempt 1", "late habit if day=9;late 0");
+        for (int n = 0; n < 10; n++) {
+            x.log(n, 0, n == 9 ? 10 : 0);
+        }
+        x.image(0);
+        Texts.town(x, PAIR);
+        x.back(0);
+        Due.is("logs", x.count(11), 10);
+        Due.is("how many", x.habit(0, 0), 1);
+        Due.is("the first", x.habit(0, 1), 10);
+        x.log(-1, 0, 0);
+        for (int n = 0; n < 10; n++) {
+            x.log(30, 1, 60);
+        }
+        x.back(0);
+        Due.is("how many", x.habit(0, 0), 1);
+        Due.is("of the other one", x.habit(1, 0), 9);
     }
 
     static void p33_anImageStaysAsItWas() {

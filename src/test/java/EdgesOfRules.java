@@ -84,6 +84,38 @@ final class EdgesOfRules {
         Due.is("late by the first once more", x.today(0, 1), 56);
     }
 
+    static void p05_signsThatAFaultLeftWaitingAreGone() {
+        LateAlways x = Due.in(PLAIN);
+        Due.is("fault", Texts.rule(x, "late 9 if not [[[1<2 and 1+2*"), -2 - (1 + 8 * 29));
+        Due.is("rule", Texts.rule(x, "late 8+1"), 0);
+        x.force(0);
+        Due.is("late", x.today(0, 1), 9);
+    }
+
+    static void p05_clausesOfARuleBeforeAreGone() {
+        LateAlways x = Due.in(PLAIN);
+        Due.is("rule", Texts.rule(x, "late 1;late 2"), 0);
+        Due.is("rule", Texts.rule(x, "late 7+1"), 1);
+        Due.is("rule of twelve", Texts.rule(x, "late 1" + ";late 2".repeat(11)), 2);
+        Due.is("rule of twelve", Texts.rule(x, "late 3 if 1=2" + ";late 4".repeat(11)), 3);
+        int[] late = {1, 8, 1, 4};
+        for (int rule = 0; rule < 4; rule++) {
+            x.force(rule);
+            Due.is("late by " + rule, x.today(0, 1), late[rule]);
+        }
+    }
+
+    static void p05_sixRulesOfSixtyValues() {
+        LateAlways x = Due.in(PLAIN);
+        for (int rule = 0; rule < 6; rule++) {
+            Due.is("rule", Texts.rule(x, "late " + rule + "+1".repeat(59)), rule);
+        }
+        for (int rule = 0; rule < 6; rule++) {
+            x.force(rule);
+            Due.is("late by " + rule, x.today(0, 1), 59 + rule);
+        }
+    }
+
     static void p05_needsNoTown() {
         LateAlways x = new LateAlways();
         Due.is("rule", Texts.rule(x, "late 8"), 0);
@@ -139,6 +171,8 @@ final class EdgesOfRules {
             good("late " + word);
             good("late 1 if " + word + "<" + word);
             fault("late " + word + "s", 5, 0);
+            fault("late " + word + "z", 5, 0);
+            fault("late " + word + "a", 5, 0);
             fault("late " + word.substring(1), 5, 0);
             fault("late " + word.substring(0, word.length() - 1), 5, 0);
             fault("late " + word + word, 5, 0);
@@ -344,8 +378,27 @@ final class EdgesOfRules {
         meant("late 60/3*2", 40);
         meant("late 60%7%3", 1);
         meant("late 17%5*3", 6);
+        meant("late 5*7%4", 3);
+        meant("late 5*7/2", 17);
+        meant("late 60%7/2", 2);
+        meant("late 60/7%3", 2);
         meant("late 2*3+4*5", 26);
         holds("1+1*2=3", true);
+        holds("3<1+2", false);
+        holds("3<5-2", false);
+        holds("4<=1+2", false);
+        holds("2=1+2", false);
+        holds("2>=1+2", false);
+        holds("3>1+2", false);
+        holds("3-5<0-1", true);
+        holds("not 1<2", false);
+        holds("not 1<=1", false);
+        holds("not 1>=2", true);
+        holds("not 1>2", true);
+        holds("not 2>=1", false);
+        holds("not 2>1", false);
+        holds("1<2 and 1<=2 and 2=2 and 2>=1 and 2>1", true);
+        holds("1<2 and 1<=2 and 2=2 and 2>=1 and 1>2", false);
         holds("1=1 or 1=1 and 1=2", true);
         holds("1=2 and 1=1 or 1=1", true);
         holds("[1=1 or 1=1] and 1=2", false);
@@ -372,6 +425,18 @@ final class EdgesOfRules {
         meant("late day+1", 1);
         meant("late clock+1", 1);
         meant("late exempt+1", 1);
+        // the second one, person 2, in the second meeting, a day later: 2 waited and was fined then, 0 was not
+        String two = "town 30 60 99;fine 4 0;person 80 20;person 20 20;person 25 20;meet 0 1 50 10;meet 0 2 200 10";
+        String[] words = {"person", "meeting", "asked/2", "habit+9", "other", "theirs", "mine", "fined", "waited", "day", "clock"};
+        // day 0: 0 comes at 110, then at 260; 2 comes at 205, early, and waits 55; its clock is slow by 1 then;
+        // day 1: 0 comes to meeting 0 at 110, as by its habit
+        int[] due = {2, 1, 100, 14, 0, 60, 5, 4, 55, 1, -1};
+        for (int i = 0; i < words.length; i++) {
+            LateAlways y = Due.in(two, "late " + words[i] + " if day=1 and meeting=1;late habit");
+            y.day();
+            // one minute later by the clock
+            Due.is(words[i], y.today(1, 2), due[i] + 1);
+        }
         LateAlways x = Due.in(PLAIN, "late exempt*10+person");
         Due.is("the second is exempt, and 2", x.today(0, 2), 12);
     }

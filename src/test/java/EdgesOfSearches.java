@@ -85,6 +85,16 @@ final class EdgesOfSearches {
         }
     }
 
+    static void p18_ofAMeetingThatIsNotTheFirst() {
+        LateAlways x = Due.in("town 0 60 99;person 20 20;person 20 20;meet 0 1 10 1;meet 0 1 300 1;meet 0 1 500 1",
+                "late 300-asked if meeting=1 and person=1 and asked<300;late asked-300 if meeting=1 and person=1");
+        Due.is("as it is", x.minute(1, 0), 300);
+        x.ask(1, 360);
+        Due.is("60 ahead", x.minute(1, 0), 300);
+        x.ask(1, 361);
+        Due.is("61 ahead is not looked at", x.minute(1, 0), 301);
+    }
+
     static void p18_nothingChanges() {
         Due.nothingHappens("minute", EdgesOfTexts::busy, x -> {
             x.minute(0, 0);
@@ -149,6 +159,22 @@ final class EdgesOfSearches {
         Due.is("how many", y.rests(0, 0), 7);
         Due.is("first", y.rests(0, 1), 0);
         Due.is("second", y.rests(0, 2), 0);
+    }
+
+    static void p20_by0Too() {
+        // who means 0 waits a minute at most, who means more is fined 9
+        LateAlways x = Due.in("town 0 1 1;fine 9 9;person 20 20;person 20 20;meet 0 1 100 10");
+        Due.is("how many", x.rests(0, 0), 1);
+        Due.is("first", x.rests(0, 1), 0);
+        Due.is("second", x.rests(0, 2), 0);
+    }
+
+    static void p20_whichIsTheFirstOnesAndWhichTheSecondOnes() {
+        // the clock of 1 is fast by 10: (10, 20), (20, 30), .. (50, 60), and (60, 60), as 1 can't come later
+        LateAlways x = Due.in("town 5 15 20;fine 2 3;person 20 20;person 20 30;meet 0 1 100 10");
+        Due.is("how many", x.rests(0, 0), 6);
+        Due.is("first", x.rests(0, 1), 10);
+        Due.is("second", x.rests(0, 2), 20);
     }
 
     static void p20_thereIsNone() {
@@ -462,6 +488,16 @@ final class EdgesOfSearches {
         Due.is("there are none", x.door(0, 1), -2);
     }
 
+    static void p25_theLeastHabitAlone() {
+        LateAlways x = Due.in(PAIR);
+        x.log(0, 0, -20);
+        Due.is("day", x.door(0, 0), 0);
+        Due.is("how many", x.door(0, 1), 1);
+        LateAlways y = Due.in(PAIR);
+        y.log(0, 0, 60);
+        Due.is("the most alone", y.door(0, 1), 1);
+    }
+
     static void p25_withoutMeetings() {
         LateAlways x = Due.in(NO_MEETINGS);
         Due.is("day", x.door(0, 0), 0);
@@ -521,6 +557,13 @@ final class EdgesOfSearches {
         LateAlways x = Due.in("town 0 60 99" + ";person 30 20".repeat(4) + ";person 30 0;meet 3 4 100 10");
         Due.is("who", x.clocks(3, 0), 4);
         Due.is("costs", x.clocks(3, 1), 0);
+    }
+
+    static void p26_onlyClocksOfPeopleThereAre() {
+        // it would cost less if 0 had been late 0 last, which no clock can do
+        LateAlways x = Due.in("town 0 60 99;person 30 20" + ";person 20 20".repeat(4) + ";meet 0 1 100 10", "late mine");
+        Due.is("none", x.clocks(1, 0), -1);
+        Due.is("costs", x.clocks(1, 1), 10);
     }
 
     static void p26_otherWhatsOrWithoutATown() {

@@ -203,6 +203,23 @@ final class EdgesOfTexts {
         Due.is("late", x.today(0, 1), 12);
     }
 
+    static void p03_whatWasCutOffDoesNotGoOn() {
+        LateAlways x = new LateAlways();
+        Texts.feed(x, "late dayday");
+        x.end(8);
+        Due.is("a word", x.rule(), 0);
+        Texts.feed(x, "late 1 if 1<=1");
+        x.end(12);
+        Due.is("a sign", x.rule(), -2 - (1 + 8 * 12));
+        Texts.feed(x, "late 123456");
+        x.end(10);
+        Due.is("a number", x.rule(), 1);
+        Texts.feed(x, "town 0 1 12;person 99 99");
+        x.end(10);
+        Due.is("a town", x.town(), 0);
+        Due.is("patience", x.count(2), 1);
+    }
+
     static void p03_nothingHappensWhenRefused() {
         Due.nothingHappens("end", EdgesOfTexts::busy, x -> {
             x.end(-1);
@@ -428,11 +445,18 @@ final class EdgesOfTexts {
         fault("town 0 1 11111111111111111111", 9, 1);
         // 4294967297 is 1 more than 2 to the 32
         fault("town 0 4294967297 1", 7, 1);
+        // the bytes beside the digits
+        fault("town /1 1 1", 5, 0);
+        fault("town 1:1 1", 6, 0);
         fault("town 0 1 1 000001", 11, 0);
     }
 
     static void p04_wordsAsFarAsLettersGoOn() {
         fault("townx 0 1 1", 0, 0);
+        fault("townz 0 1 1", 0, 0);
+        fault("towna 0 1 1", 0, 0);
+        fault("town`0 1 1", 4, 0);
+        fault("town{0 1 1", 4, 0);
         fault("to wn 0 1 1", 0, 0);
         fault("TOWN 0 1 1", 0, 0);
         fault("town 0 1 1person 0 0", 10, 0);
